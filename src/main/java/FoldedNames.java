@@ -181,7 +181,7 @@ public final class FoldedNames {
         }
         made.begin(isDirectory);
         made.takeName(tape, asked);
-        attach(number, directory);
+        attach(number, made, directory, into);
         count++;
         return number;
     }
@@ -262,7 +262,7 @@ public final class FoldedNames {
         if (isRenamed) {
             moved.takeName(tape, asked);
         }
-        attach(number, directory);
+        attach(number, moved, directory, into);
         return before;
     }
 
@@ -318,13 +318,8 @@ public final class FoldedNames {
         return NONE;
     }
 
-    /** Makes a NODE whose folded NAME is asked an ENTRY; the rows have room, as the callers saw. */
-    private void attach(int number, int directory) {
-        Node node = nodeAt(number);
-        Node into = nodeAt(directory);
-        if (node == null || into == null) {
-            return;
-        }
+    /** Makes a NODE whose folded NAME is asked the last ENTRY; the callers have seen to the room. */
+    private void attach(int number, Node node, int directory, Node into) {
         node.parent = directory;
         into.entries.add(number);
         into.entriesByName.insert(placeByName(into), number);
@@ -479,13 +474,15 @@ public final class FoldedNames {
     /** Octets read as POINTS in UTF-8. */
     private static final class Text {
         static int wrongPlace(Row octets, int from, int to) {
-            int place = from;
-            while (place < to) {
-                int point = pointAt(octets, place, to);
-                if (point == NONE) {
-                    return place;
+            int begin = from;
+            for (int place = from; place < to; place++) {
+                if (place == begin) {
+                    int point = pointAt(octets, place, to);
+                    if (point == NONE) {
+                        return place;
+                    }
+                    begin += octetsOf(point);
                 }
-                place += octetsOf(point);
             }
             return NONE;
         }
@@ -555,17 +552,14 @@ public final class FoldedNames {
                 "012345_601240124_301234__01241__012345_601240124_301234__01241_4";
         private static final int[] MARK_STEPS = {0, 1, 2, 3, 8, 10, 39};
 
-        /** The octets from .. to - 1 have to be a right TEXT. */
+        /** Of a right TEXT, from .. to - 1: there just the octets inside a POINT begin none. */
         static void foldInto(Row points, Row octets, int from, int to) {
             points.clear();
-            int place = from;
-            while (place < to) {
+            for (int place = from; place < to; place++) {
                 int point = Text.pointAt(octets, place, to);
-                if (point == NONE) {
-                    return;
+                if (point != NONE) {
+                    addFolded(points, point);
                 }
-                addFolded(points, point);
-                place += Text.octetsOf(point);
             }
         }
 
