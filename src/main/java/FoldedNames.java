@@ -318,7 +318,7 @@ public final class FoldedNames {
         return NONE;
     }
 
-    /** Makes a NODE whose folded NAME is asked the last ENTRY; the callers have seen to the room. */
+    /** Makes a NODE whose folded NAME is asked the last ENTRY; the callers saw to the room. */
     private void attach(int number, Node node, int directory, Node into) {
         node.parent = directory;
         into.entries.add(number);
@@ -370,7 +370,7 @@ public final class FoldedNames {
         return depth;
     }
 
-    /** A row of numbers from 0 on, with room for so many, that is never read or written beside it. */
+    /** A row of numbers from 0 on with fixed room, never read or written beside it. */
     private static final class Row {
         private final int[] items;
         private int size;
@@ -437,7 +437,7 @@ public final class FoldedNames {
         }
     }
 
-    /** What has a NODE's number; without ENTRIES if it is a LEAF, and without a NAME if the ROOT. */
+    /** What has a NODE's number: without ENTRIES, if it is a LEAF; the ROOT without a NAME. */
     private static final class Node {
         final Row name;
         final Row foldedName;
@@ -541,7 +541,7 @@ public final class FoldedNames {
         }
     }
 
-    /** POINTS folded: taken apart, made small, and their MARKS brought into the order of CLASSES. */
+    /** POINTS folded: taken apart, made small, and their MARKS in the order of CLASSES. */
     private static final class Folding {
         private static final int FIRST_APART = 192;
         private static final int FIRST_MARK = 768;
