@@ -1,18 +1,56 @@
 import java.nio.charset.StandardCharsets;
+import java.util.function.IntUnaryOperator;
 
-/** What the tests share: the count of wrong answers, and ways to feed THE TAPE. */
+/**
+ * What the tests share: the sentence of the document that is looked at, the count of answers that
+ * are not as due, and ways to feed THE TAPE. No test makes more than 512 calls on one object, as
+ * nothing is promised behind them.
+ */
 final class Due {
+    private static String sentence = "";
     private static int asked = 0;
+    private static int askedBefore = 0;
     private static int wrong = 0;
 
     private Due() {
     }
 
+    /** The answers from here on are those that these words of the document ask for. */
+    static void sentence(String words) {
+        endSentence();
+        sentence = words;
+    }
+
+    private static void endSentence() {
+        if (!sentence.isEmpty() && asked == askedBefore) {
+            fail("nothing was asked");
+        }
+        askedBefore = asked;
+    }
+
+    private static void fail(String what) {
+        wrong++;
+        System.out.println((sentence.isEmpty() ? "" : "[" + sentence + "] ") + what);
+    }
+
     static void due(String call, long got, long want) {
         asked++;
         if (got != want) {
-            wrong++;
-            System.out.println(call + " answered " + got + ", due is " + want);
+            fail(call + " answered " + got + ", due is " + want);
+        }
+    }
+
+    static void due(String call, String got, String want) {
+        asked++;
+        if (!got.equals(want)) {
+            fail(call + " left\n  " + got + ", due is\n  " + want);
+        }
+    }
+
+    static void due(String call, boolean threw, boolean want) {
+        asked++;
+        if (threw != want) {
+            fail(call + (want ? " did not throw" : " threw"));
         }
     }
 
@@ -25,12 +63,21 @@ final class Due {
         }
         asked++;
         if (!got.equals("IllegalArgumentException")) {
-            wrong++;
-            System.out.println(call + " threw " + got + ", due is IllegalArgumentException");
+            fail(call + " threw " + got + ", due is IllegalArgumentException");
         }
     }
 
+    /** A row that is read by its index, from 0 on, has these items and NONE beside them. */
+    static void dueRow(String call, IntUnaryOperator at, int... want) {
+        for (int k = 0; k < want.length; k++) {
+            due(call + " " + k, at.applyAsInt(k), want[k]);
+        }
+        due(call + " behind the last", at.applyAsInt(want.length), FoldedNames.NONE);
+        due(call + " -1", at.applyAsInt(-1), FoldedNames.NONE);
+    }
+
     static void end() {
+        endSentence();
         System.out.println(asked + " answers, " + wrong + " not as due");
         if (wrong != 0 || asked == 0) {
             System.exit(1);
@@ -41,12 +88,24 @@ final class Due {
         return text.getBytes(StandardCharsets.UTF_8);
     }
 
+    static byte[] utf8(int point) {
+        return utf8(Character.toString(point));
+    }
+
     static byte[] octets(int... values) {
         byte[] row = new byte[values.length];
         for (int i = 0; i < values.length; i++) {
             row[i] = (byte) values[i];
         }
         return row;
+    }
+
+    static String told(byte[] row) {
+        StringBuilder told = new StringBuilder();
+        for (byte octet : row) {
+            told.append(' ').append(octet & 255);
+        }
+        return told.toString();
     }
 
     /** THE TAPE gets these octets behind what it has, with as few calls as can be. */
@@ -82,16 +141,54 @@ final class Due {
         return feed(x, name).move(node, directory);
     }
 
-    static void dueFolded(String text, int... points) {
-        dueFolded(text, utf8(text), points);
+    /** The NODES 1 d, 2 d/e, 3 d/e/f (a LEAF), 4 leaf (a LEAF), 5 d/g. */
+    static FoldedNames tree() {
+        FoldedNames x = new FoldedNames();
+        put(x, 0, true, "d");
+        put(x, 1, true, "e");
+        put(x, 2, false, "f");
+        put(x, 0, false, "leaf");
+        put(x, 1, true, "g");
+        return x;
     }
 
-    static void dueFolded(String told, byte[] text, int... points) {
-        FoldedNames x = new FoldedNames();
-        due("fold() of " + told, feed(x, text).fold(), points.length);
-        for (int k = 0; k < points.length; k++) {
-            due("folded(" + k + ") of " + told, x.folded(k), points[k]);
+    /** tree() with 40 ENTRIES more, 6 .. 45, in 5: n0 .. n39, LEAVES. */
+    static FoldedNames treeWithoutRoom() {
+        FoldedNames x = tree();
+        for (int i = 0; i < 40; i++) {
+            put(x, 5, false, "n" + i);
         }
-        due("folded behind the last of " + told, x.folded(points.length), -1);
+        return x;
+    }
+
+    /** All 200 NODES, DIRECTORIES with 40 ENTRIES each, as long as there are some: n1 .. n199. */
+    static FoldedNames fullTree() {
+        FoldedNames x = new FoldedNames();
+        for (int number = 1; number <= 199; number++) {
+            put(x, (number - 1) / 40, true, "n" + number);
+        }
+        return x;
+    }
+
+    static void dueCheck(int want, int... row) {
+        dueCheck(want, octets(row));
+    }
+
+    static void dueCheck(int want, byte[] row) {
+        due("check() of" + told(row), feed(new FoldedNames(), row).check(), want);
+    }
+
+    static void dueFolded(String text, int... points) {
+        dueFolded(utf8(text), points);
+    }
+
+    static void dueFolded(byte[] text, int... points) {
+        FoldedNames x = new FoldedNames();
+        due("fold() of" + told(text), feed(x, text).fold(), points.length);
+        dueRow("folded of" + told(text) + ":", x::folded, points);
+    }
+
+    static void duePointFolded(int point, int... points) {
+        dueFolded(utf8(point), points);
     }
 }
