@@ -77,7 +77,7 @@ final class Due {
     }
 
     static void end() {
-        endSentence();
+        sentence("");
         System.out.println(asked + " answers, " + wrong + " not as due");
         if (wrong != 0 || asked == 0) {
             System.exit(1);
