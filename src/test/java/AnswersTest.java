@@ -174,7 +174,7 @@ public final class AnswersTest {
     }
 
     private static void refusedChangesNothing() {
-        Due.sentence("a call that answers below 0 changes nothing (but THE TAPE, where it is read)");
+        Due.sentence("a call that answers below 0 changes nothing (but THE TAPE, where read)");
         dueRefusedReading("check()", "ab", -1, FoldedNames::check);
         dueRefusedReading("put(9)", "new", -5, x -> x.put(9, true));
         dueRefusedReading("put(4)", "new", -5, x -> x.put(4, true));

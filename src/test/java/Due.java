@@ -7,6 +7,9 @@ import java.util.function.IntUnaryOperator;
  * nothing is promised behind them.
  */
 final class Due {
+    /** Numbers that no NODE of tree() has. */
+    static final int[] NO_NUMBERS = {-1, 6, 199, 200, Integer.MIN_VALUE, Integer.MAX_VALUE};
+
     private static String sentence = "";
     private static int asked = 0;
     private static int askedBefore = 0;
@@ -157,6 +160,15 @@ final class Due {
         FoldedNames x = tree();
         for (int i = 0; i < 40; i++) {
             put(x, 5, false, "n" + i);
+        }
+        return x;
+    }
+
+    /** The NODES 1 .. last, DIRECTORIES that are called n, each one in the one before. */
+    static FoldedNames chain(int last) {
+        FoldedNames x = new FoldedNames();
+        for (int number = 1; number <= last; number++) {
+            put(x, number - 1, true, "n");
         }
         return x;
     }

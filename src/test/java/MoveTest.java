@@ -1,8 +1,5 @@
 /** Promises 9 and 10, move and remove. */
 public final class MoveTest {
-    private static final int[] NO_NUMBERS = {
-        -1, 6, 199, 200, Integer.MIN_VALUE, Integer.MAX_VALUE};
-
     public static void main(String[] args) {
         becomesTheLastEntry();
         alsoWhereItIs();
@@ -147,10 +144,7 @@ public final class MoveTest {
         Due.due("move(1, 6)", x.move(1, 6), -6);
         Due.due("move(1, 6) to another NAME", Due.move(x, 1, 6, "new"), -6);
         Due.due("about(1, 1)", x.about(1, 1), 0);
-        FoldedNames deep = new FoldedNames();
-        for (int number = 1; number <= 199; number++) {
-            Due.put(deep, number - 1, true, "n");
-        }
+        FoldedNames deep = Due.chain(199);
         Due.due("move(1, 199)", Due.move(deep, 1, 199, "m"), -6);
         Due.due("move(198, 199)", Due.move(deep, 198, 199, "m"), -6);
         Due.due("move(199, 199)", Due.move(deep, 199, 199, "m"), -6);
@@ -203,7 +197,7 @@ public final class MoveTest {
     private static void movesNoNode() {
         Due.sentence("move: -5, not such a NODE: none");
         FoldedNames x = Due.tree();
-        for (int number : NO_NUMBERS) {
+        for (int number : Due.NO_NUMBERS) {
             Due.due("move(" + number + ", 0)", Due.move(x, number, 0, "a"), -5);
             Due.due("move(1, " + number + ")", Due.move(x, 1, number, "a"), -5);
         }
@@ -286,7 +280,7 @@ public final class MoveTest {
     private static void removesNoNode() {
         Due.sentence("remove: -5, not such a NODE: none");
         FoldedNames x = Due.tree();
-        for (int number : NO_NUMBERS) {
+        for (int number : Due.NO_NUMBERS) {
             Due.due("remove(" + number + ")", x.remove(number), -5);
         }
         x.remove(3);

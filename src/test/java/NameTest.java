@@ -1,8 +1,5 @@
 /** The NAME of "Terms", and promises 6, 7 and 14: put, find and letter. */
 public final class NameTest {
-    private static final int[] NO_NUMBERS = {
-        -1, 6, 199, 200, Integer.MIN_VALUE, Integer.MAX_VALUE};
-
     public static void main(String[] args) {
         rightText();
         noOctets();
@@ -222,7 +219,7 @@ public final class NameTest {
     private static void putInNoDirectory() {
         Due.sentence("put: -5, none, or no DIRECTORY where one has to be");
         FoldedNames x = Due.tree();
-        for (int number : NO_NUMBERS) {
+        for (int number : Due.NO_NUMBERS) {
             Due.due("put in " + number, Due.put(x, number, true, "x"), -5);
         }
         Due.due("put in a LEAF", Due.put(x, 4, true, "x"), -5);
@@ -288,7 +285,7 @@ public final class NameTest {
     private static void findInNoDirectory() {
         Due.sentence("find: NO_NODE");
         FoldedNames x = Due.tree();
-        for (int number : NO_NUMBERS) {
+        for (int number : Due.NO_NUMBERS) {
             Due.due("find in " + number, Due.find(x, number, "x"), -5);
         }
         Due.due("find in a LEAF", Due.find(x, 4, "x"), -5);
@@ -335,7 +332,7 @@ public final class NameTest {
     private static void letterOfNone() {
         Due.sentence("letter: NO_NODE");
         FoldedNames x = Due.tree();
-        for (int number : NO_NUMBERS) {
+        for (int number : Due.NO_NUMBERS) {
             Due.due("letter(" + number + ", 0, 0)", x.letter(number, 0, 0), -5);
             Due.due("letter(" + number + ", 1, -1)", x.letter(number, 1, -1), -5);
         }

@@ -1,7 +1,5 @@
 /** NODES of "Terms", and promises 1, 11, 12, 13 and 15: about, entry, sorted and nodes. */
 public final class TreeTest {
-    private static final int[] NO_NUMBERS = {
-        -1, 6, 199, 200, Integer.MIN_VALUE, Integer.MAX_VALUE};
     private static final int[] NO_INDEXES = {
         -1, 2, 39, 40, Integer.MIN_VALUE, Integer.MAX_VALUE};
 
@@ -137,10 +135,7 @@ public final class TreeTest {
     private static void aboutSlashes() {
         Due.sentence("how many / lead to it from the ROOT (5; 0 of the ROOT)");
         dueAbout(Due.tree(), 5, 0, 1, 2, 3, 1, 2);
-        FoldedNames x = new FoldedNames();
-        for (int number = 1; number <= 199; number++) {
-            Due.put(x, number - 1, true, "n");
-        }
+        FoldedNames x = Due.chain(199);
         Due.due("about(199, 5)", x.about(199, 5), 199);
         Due.due("about(198, 5)", x.about(198, 5), 198);
         Due.due("move(100, 1)", Due.move(x, 100, 1, "m"), 99);
@@ -153,7 +148,7 @@ public final class TreeTest {
         Due.sentence("about: NO_NODE: it is not there");
         FoldedNames x = Due.tree();
         for (int what = 0; what <= 5; what++) {
-            for (int number : NO_NUMBERS) {
+            for (int number : Due.NO_NUMBERS) {
                 Due.due("about(" + number + ", " + what + ")", x.about(number, what), -5);
             }
         }
@@ -220,7 +215,7 @@ public final class TreeTest {
     private static void entryOfNoDirectory() {
         Due.sentence("entry: NO_NODE");
         FoldedNames x = Due.tree();
-        for (int number : NO_NUMBERS) {
+        for (int number : Due.NO_NUMBERS) {
             Due.due("entry(" + number + ", 0)", x.entry(number, 0), -5);
         }
         Due.due("entry(4, 0) of a LEAF", x.entry(4, 0), -5);
@@ -298,7 +293,7 @@ public final class TreeTest {
     private static void sortedOfNoDirectory() {
         Due.sentence("sorted: NO_NODE");
         FoldedNames x = Due.tree();
-        for (int number : NO_NUMBERS) {
+        for (int number : Due.NO_NUMBERS) {
             Due.due("sorted(" + number + ", 0)", x.sorted(number, 0), -5);
         }
         Due.due("sorted(4, 0) of a LEAF", x.sorted(4, 0), -5);

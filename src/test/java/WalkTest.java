@@ -166,8 +166,7 @@ public final class WalkTest {
 
     private static void noNode() {
         Due.sentence("NO_NODE when the NODE is not there");
-        int[] numbers = {-1, 6, 199, 200, Integer.MIN_VALUE, Integer.MAX_VALUE};
-        for (int number : numbers) {
+        for (int number : Due.NO_NUMBERS) {
             due(number, "", -5);
             due(number, "d", -5);
             due(number, "/d", -5);
@@ -186,10 +185,7 @@ public final class WalkTest {
         due(2, "/".repeat(200), 0);
         due(0, "./".repeat(99) + "/d", 1);
         due(0, "d".repeat(200), -2);
-        FoldedNames x = new FoldedNames();
-        for (int number = 1; number <= 100; number++) {
-            Due.put(x, number - 1, true, "n");
-        }
+        FoldedNames x = Due.chain(100);
         Due.due("walk a hundred down", Due.walk(x, 0, "N/".repeat(100)), 100);
         Due.due("walk sixty-six up", Due.walk(x, 100, "../".repeat(66)), 34);
     }
